@@ -1,0 +1,120 @@
+import java.lang.reflect.InvocationTargetException;
+import java.lang.reflect.Method;
+import java.util.Arrays;
+import java.util.Random;
+
+/** Long runs of calls of all kinds, always the same ones, answered as Model answers them. */
+public final class ModelTest {
+    // The document promises nothing beyond this many calls on one object.
+    private static final int CALLS = 512;
+    private static final int RUNS = 240;
+
+    private static final String[] WRITES = {"make", "copy", "slice", "join", "release", "set", "fill", "move",
+        "sort", "reverse", "slice", "join", "set", "fill", "move", "set"};
+    private static final String[] READS = {"get", "length", "sum", "bound", "find", "difference", "used", "made",
+        "leaf", "alike", "used", "made", "leaf", "alike", "difference"};
+
+    private final Checks checks = new Checks();
+    private final Random random = new Random(20261115L);
+    private int mostValues;
+    private Model model;
+
+    public static void main(String[] args) throws ReflectiveOperationException {
+        ModelTest test = new ModelTest();
+        int[] sizes = {40, 130, 1100, 4096};
+        for (int run = 0; run < RUNS; run++) {
+            test.mostValues = sizes[run % sizes.length];
+            test.run(run);
+        }
+        test.checks.end();
+    }
+
+    private void run(int run) throws ReflectiveOperationException {
+        SharedLeaves object = new SharedLeaves();
+        model = new Model();
+        for (int call = 0; call < CALLS; call++) {
+            String[] names = random.nextInt(5) < 2 ? WRITES : READS;
+            String name = names[random.nextInt(names.length)];
+            int[] arguments = arguments(name);
+            String want = answer(model, name, arguments);
+            String got = answer(object, name, arguments);
+            if (!got.equals(want)) {
+                checks.report("run " + run + ", call " + call + ": " + name + Arrays.toString(arguments), got, want);
+                return;
+            }
+        }
+    }
+
+    private int[] arguments(String name) {
+        int a = array();
+        int b = array();
+        int from = index(a);
+        int to = random.nextInt(20) == 0 ? index(a) : from + Math.max(0, index(a) - Math.max(0, from));
+        switch (name) {
+            case "make": return new int[] {multiple(mostValues), value()};
+            case "join": case "difference": return new int[] {a, b};
+            case "get": return new int[] {a, from};
+            case "slice": case "sum": return new int[] {a, from, to};
+            case "set": case "find": return new int[] {a, from, value()};
+            case "fill": return new int[] {a, from, to, value()};
+            case "move": return new int[] {a, from, to, target(a, to - from)};
+            case "bound": return new int[] {a, from, to, random.nextInt(30) == 0 ? 2 : random.nextInt(2)};
+            case "leaf": return new int[] {a, index(a) / 16};
+            case "alike": return new int[] {a, index(a) / 16, b, index(b) / 16};
+            case "used": case "made": return new int[0];
+            default: return new int[] {a};
+        }
+    }
+
+    /** Mostly the number of an array that is there. */
+    private int array() {
+        int a = random.nextInt(20) == 0 ? random.nextInt(18) - 1 : random.nextInt(16);
+        for (int tries = 0; tries < 12 && model.length(a) < 0; tries++) {
+            a = random.nextInt(16);
+        }
+        return a;
+    }
+
+    private int index(int a) {
+        return multiple(Math.max(0, model.length(a)));
+    }
+
+    private int target(int a, int count) {
+        return multiple(Math.max(0, model.length(a) - count));
+    }
+
+    /** A number 0 .. most, often at or beside a multiple of 16 or most, seldom outside. */
+    private int multiple(int most) {
+        int some = random.nextInt(most + 1);
+        switch (random.nextInt(12)) {
+            case 0: return most;
+            case 1: return 0;
+            case 2: case 3: case 4: case 5: return some / 16 * 16;
+            case 6: return Math.min(most, some / 16 * 16 + 1);
+            case 7: return Math.max(0, some / 16 * 16 - 1);
+            case 8: return random.nextInt(8) == 0 ? most + 1 : some;
+            case 9: return random.nextInt(8) == 0 ? -1 : some;
+            default: return some;
+        }
+    }
+
+    private int value() {
+        switch (random.nextInt(30)) {
+            case 0: return Integer.MAX_VALUE;
+            case 1: return Integer.MIN_VALUE;
+            case 2: return random.nextInt();
+            default: return random.nextInt(3);
+        }
+    }
+
+    private static String answer(Object target, String name, int[] arguments) throws ReflectiveOperationException {
+        Class<?>[] types = new Class<?>[arguments.length];
+        Arrays.fill(types, int.class);
+        Method method = target.getClass().getMethod(name, types);
+        try {
+            return String.valueOf(method.invoke(target, Arrays.stream(arguments).boxed().toArray()));
+        } catch (InvocationTargetException e) {
+            return e.getCause().getClass().getName();
+        }
+    }
+}
