@@ -115,7 +115,7 @@ public final class SharedLeaves {
         for (int k = 0; k < row.leafCount(); k++) {
             setConstant(row, k, 0);
         }
-        row.end();
+        row.there = false;
         return true;
     }
 
@@ -329,9 +329,7 @@ public final class SharedLeaves {
     private void readLeaves(Row row, int first, int end) {
         int from = first * LEAF_VALUES;
         int to = Math.min(row.length, end * LEAF_VALUES);
-        if (from < to) {
-            readValues(row, from, to, next, from);
-        }
+        readValues(row, from, to, next, from);
     }
 
     private void fillValues(Row row, int from, int to, int v) {
@@ -366,8 +364,8 @@ public final class SharedLeaves {
             return BECOMES_CONSTANT;
         }
         int place = row.leafPlaces[k];
-        boolean itsAlone = place != NO_PLACE && !places.isShared(place);
-        return itsAlone ? BECOMES_ITSELF : BECOMES_NEW;
+        boolean unshared = place != NO_PLACE && !places.isShared(place);
+        return unshared ? BECOMES_ITSELF : BECOMES_NEW;
     }
 
     private void carryOut(int plan, Row row, int k) {
@@ -496,11 +494,6 @@ public final class SharedLeaves {
         void begin(int newLength) {
             there = true;
             length = newLength;
-        }
-
-        void end() {
-            there = false;
-            length = 0;
         }
 
         int leafCount() {

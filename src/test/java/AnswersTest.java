@@ -119,7 +119,13 @@ public final class AnswersTest {
         CHECKS.due("difference with none", x.difference(0, 3), 0);
         CHECKS.due("difference of none", x.difference(3, 0), 0);
         CHECKS.due("difference(3, 3)", x.difference(3, 3), SharedLeaves.NONE);
-        for (int a : new int[] {-1, 4, 16, LEAST_INT, GREATEST_INT}) {
+        x.make(4096, 1);
+        x.make(4096, 2);
+        CHECKS.due("difference of 4096", x.difference(4, 5), 0);
+        CHECKS.due("difference of equal starts, others behind them", x.difference(3, 3), SharedLeaves.NONE);
+        x.fill(5, 0, 4096, 1);
+        CHECKS.due("difference of equal 4096", x.difference(4, 5), SharedLeaves.NONE);
+        for (int a : new int[] {-1, 6, 16, LEAST_INT, GREATEST_INT}) {
             CHECKS.argumentRefused("difference(" + a + ", 0)", () -> x.difference(a, 0));
             CHECKS.argumentRefused("difference(0, " + a + ")", () -> x.difference(0, a));
         }

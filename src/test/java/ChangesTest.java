@@ -258,7 +258,7 @@ public final class ChangesTest {
     }
 
     private static void sortOrdersAllInts() {
-        for (int n : new int[] {0, 1, 2, 15, 16, 17, 100, 250}) {
+        for (int n : new int[] {0, 1, 2, 15, 16, 17, 100, 240}) {
             SharedLeaves x = new SharedLeaves();
             x.make(n, 0);
             int[] due = new int[n];
@@ -267,6 +267,8 @@ public final class ChangesTest {
                 x.set(0, i, due[i]);
             }
             Arrays.sort(due);
+            x.make(4096, 9);
+            x.reverse(1);
             x.sort(0);
             for (int i = 0; i < n; i++) {
                 CHECKS.due("sort of " + n + ": get(0, " + i + ")", x.get(0, i), due[i]);

@@ -10,6 +10,7 @@ public final class RoomTest {
         sliceIsCountedAsAWhole();
         joinIsCountedAsAWhole();
         placesAreUsedAgain();
+        placesAreGivenBackInAnyOrder();
         argumentsAreLookedAtFirst();
         CHECKS.end();
     }
@@ -150,6 +151,28 @@ public final class RoomTest {
             x.release(1);
         }
         CHECKS.due("again: sum(0)", x.sum(0, 0, 4096), 256);
+    }
+
+    private static void placesAreGivenBackInAnyOrder() {
+        SharedLeaves x = new SharedLeaves();
+        for (int a = 0; a < 4; a++) {
+            x.make(16, a);
+            x.set(a, 0, 10 + a);
+        }
+        x.release(0);
+        x.release(2);
+        x.make(16, 5);
+        x.make(16, 6);
+        x.set(0, 0, 15);
+        x.set(2, 0, 16);
+        CHECKS.due("any order: sum(0)", x.sum(0, 0, 16), 15 + 15 * 5);
+        CHECKS.due("any order: sum(1)", x.sum(1, 0, 16), 11 + 15 * 1);
+        CHECKS.due("any order: sum(2)", x.sum(2, 0, 16), 16 + 15 * 6);
+        CHECKS.due("any order: sum(3)", x.sum(3, 0, 16), 13 + 15 * 3);
+        CHECKS.due("any order: used()", x.used(), 4);
+        for (int a = 0; a < 4; a++) {
+            CHECKS.due("any order: leaf(" + a + ", 0)", x.leaf(a, 0), 1);
+        }
     }
 
     private static void argumentsAreLookedAtFirst() {
