@@ -105,7 +105,7 @@ public final class Model {
     }
 
     public int length(int a) {
-        return isThere(a) ? values(there(a)).length : -1;
+        return isThere(a) ? there(a).stream().mapToInt(leaf -> leaf.values.length).sum() : -1;
     }
 
     public long sum(int a, int from, int to) {

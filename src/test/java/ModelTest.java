@@ -1,12 +1,9 @@
-import java.lang.reflect.InvocationTargetException;
-import java.lang.reflect.Method;
-import java.util.Arrays;
 import java.util.Random;
+import java.util.Set;
+import java.util.TreeSet;
 
 /** Long runs of calls of all kinds, always the same ones, answered as Model answers them. */
 public final class ModelTest {
-    // The document promises nothing beyond this many calls on one object.
-    private static final int CALLS = 512;
     private static final int RUNS = 240;
 
     private static final String[] WRITES = {"make", "copy", "slice", "join", "release", "set", "fill", "move",
@@ -14,43 +11,72 @@ public final class ModelTest {
     private static final String[] READS = {"get", "length", "sum", "bound", "find", "difference", "used", "made",
         "leaf", "alike", "used", "made", "leaf", "alike", "difference"};
 
+    private static final String NEED_ROOM = "[fill, join, move, reverse, set, slice, sort]";
+
     private final Checks checks = new Checks();
     private final Random random = new Random(20261115L);
+    private final Set<String> refusedForRoom = new TreeSet<>();
     private int mostValues;
-    private Model model;
+    private Pair pair;
 
-    public static void main(String[] args) throws ReflectiveOperationException {
+    public static void main(String[] args) {
         ModelTest test = new ModelTest();
         int[] sizes = {40, 130, 1100, 4096};
         for (int run = 0; run < RUNS; run++) {
             test.mostValues = sizes[run % sizes.length];
-            test.run(run);
+            test.run("run " + run, run % 3 == 0);
         }
+        test.checks.due("all runs: which were refused for no room", test.refusedForRoom.toString(), NEED_ROOM);
         test.checks.end();
     }
 
-    private void run(int run) throws ReflectiveOperationException {
-        SharedLeaves object = new SharedLeaves();
-        model = new Model();
-        for (int call = 0; call < CALLS; call++) {
+    private void run(String name, boolean crowded) {
+        pair = new Pair(checks, name);
+        if (crowded) {
+            takeMostPlaces();
+        }
+        // What follows a wrong answer tells nothing.
+        while (pair.isAlike() && pair.hasCallsLeft(1)) {
             String[] names = random.nextInt(5) < 2 ? WRITES : READS;
-            String name = names[random.nextInt(names.length)];
-            int[] arguments = arguments(name);
-            String want = answer(model, name, arguments);
-            String got = answer(object, name, arguments);
-            if (!got.equals(want)) {
-                checks.report("run " + run + ", call " + call + ": " + name + Arrays.toString(arguments), got, want);
-                return;
-            }
+            askSome(names[random.nextInt(names.length)]);
         }
     }
 
-    private int[] arguments(String name) {
+    private void askSome(String method) {
+        boolean allThere = areAllThere();
+        String answer = pair.ask(method, arguments(method));
+        boolean refused = answer.equals(IllegalStateException.class.getName());
+        // With all arrays there, slice and join are refused for that.
+        if (refused && !allThere) {
+            refusedForRoom.add(method);
+        }
+    }
+
+    private boolean areAllThere() {
+        for (int a = 0; a < 16; a++) {
+            if (pair.lengthInModel(a) < 0) {
+                return false;
+            }
+        }
+        return true;
+    }
+
+    /** One place is left free: calls like those that follow seldom take so many. */
+    private void takeMostPlaces() {
+        pair.ask("make", 4096, 0);
+        pair.ask("set", 0, 0, 1);
+        for (int width = 16; width < 4096; width *= 2) {
+            pair.ask("move", 0, 0, width, width);
+        }
+        pair.ask("slice", 0, 1, 4096);
+    }
+
+    private int[] arguments(String method) {
         int a = array();
         int b = array();
         int from = index(a);
         int to = random.nextInt(20) == 0 ? index(a) : from + Math.max(0, index(a) - Math.max(0, from));
-        switch (name) {
+        switch (method) {
             case "make": return new int[] {multiple(mostValues), value()};
             case "join": case "difference": return new int[] {a, b};
             case "get": return new int[] {a, from};
@@ -69,20 +95,20 @@ public final class ModelTest {
     /** Mostly the number of an array that is there. */
     private int array() {
         int a = random.nextInt(20) == 0 ? random.nextInt(18) - 1 : random.nextInt(16);
-        for (int tries = 0; tries < 12 && model.length(a) < 0; tries++) {
+        for (int tries = 0; tries < 12 && pair.lengthInModel(a) < 0; tries++) {
             a = random.nextInt(16);
         }
         return a;
     }
 
     private int index(int a) {
-        return multiple(Math.max(0, model.length(a)));
+        return multiple(Math.max(0, pair.lengthInModel(a)));
     }
 
     private int target(int a, int count) {
         // A range with an end far outside has no count to go by.
-        int moved = count < 0 || count > mostValues ? 0 : count;
-        return multiple(Math.max(0, model.length(a) - moved));
+        int moved = count < 0 || count > 4096 ? 0 : count;
+        return multiple(Math.max(0, pair.lengthInModel(a) - moved));
     }
 
     /** A number 0 .. most, often at or beside a multiple of 16 or most, seldom outside. */
@@ -112,17 +138,6 @@ public final class ModelTest {
             case 1: return Integer.MIN_VALUE;
             case 2: return random.nextInt();
             default: return random.nextInt(3);
-        }
-    }
-
-    private static String answer(Object target, String name, int[] arguments) throws ReflectiveOperationException {
-        Class<?>[] types = new Class<?>[arguments.length];
-        Arrays.fill(types, int.class);
-        Method method = target.getClass().getMethod(name, types);
-        try {
-            return String.valueOf(method.invoke(target, Arrays.stream(arguments).boxed().toArray()));
-        } catch (InvocationTargetException e) {
-            return e.getCause().getClass().getName();
         }
     }
 }
